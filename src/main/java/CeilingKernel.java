@@ -538,24 +538,24 @@ public final class CeilingKernel {
             int deadline = tasks[number].deadline;
             int time = 1;
             for (int step = 0; step <= deadline; step++) {
-                long demand = demandWithin(tasks, number, time);
+                int demand = demandWithin(tasks, number, time);
                 if (demand > deadline) {
                     return NOTHING;
                 }
                 if (demand == time) {
                     return time;
                 }
-                time = (int) demand;
+                time = demand;
             }
             return NOTHING;
         }
 
-        /** In long: thousands of releases of a task of half a billion cycles may count. */
-        private long demandWithin(Task[] tasks, int number, int time) {
-            long demand = (long) blockings[number] + wcets[number] + SWITCH_CYCLES;
+        /** No more urgent task is late here, so what they add is small and the sum stays an int. */
+        private int demandWithin(Task[] tasks, int number, int time) {
+            int demand = blockings[number] + wcets[number] + SWITCH_CYCLES;
             for (int j = 0; j < number; j++) {
                 int period = Math.max(1, tasks[j].period);
-                long releases = (time + period - 1) / period;
+                int releases = (time + period - 1) / period;
                 demand += releases * (wcets[j] + 2 * SWITCH_CYCLES);
             }
             return demand;
