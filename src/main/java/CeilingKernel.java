@@ -564,7 +564,7 @@ public final class CeilingKernel {
         int activeNumber(int number, int held) {
             int active = number;
             for (int resource = 0; resource < RESOURCES; resource++) {
-                if ((held & 1 << resource) != 0 && ceilings[resource] != NOTHING) {
+                if ((held & (1 << resource)) != 0 && ceilings[resource] != NOTHING) {
                     active = Math.min(active, ceilings[resource]);
                 }
             }
@@ -612,7 +612,7 @@ public final class CeilingKernel {
         }
 
         boolean goesBefore(Job other) {
-            return active < other.active || active == other.active && begun && !other.begun;
+            return active < other.active || (active == other.active && begun && !other.begun);
         }
 
         Routine routine() {
@@ -783,7 +783,7 @@ public final class CeilingKernel {
         private final int[] values = new int[KEPT_ENTRIES];
 
         void add(int kind, int number, int time, int value) {
-            int slot = made & KEPT_ENTRIES - 1;
+            int slot = made & (KEPT_ENTRIES - 1);
             kinds[slot] = kind;
             numbers[slot] = number;
             times[slot] = time;
@@ -795,7 +795,7 @@ public final class CeilingKernel {
             if (!isBelow(back, Math.min(made, KEPT_ENTRIES))) {
                 return NOTHING;
             }
-            int slot = made - 1 - back & KEPT_ENTRIES - 1;
+            int slot = (made - 1 - back) & (KEPT_ENTRIES - 1);
             switch (what) {
                 case 0:
                     return kinds[slot];
@@ -821,7 +821,7 @@ public final class CeilingKernel {
         private final Mailbox[] mailboxes = new Mailbox[MAILBOXES];
         private int taskCount;
         private int cyclesMade;
-        /** The task whose job has the processor and has not ended, or NOTHING. */
+        /** The task whose job got the latest cycle, or NOTHING once that job has ended. */
         private int holder;
         private int latest;
         private int switches;
@@ -867,7 +867,6 @@ public final class CeilingKernel {
                 cyclesMade++;
                 if (latest == NOTHING) {
                     idle++;
-                    holder = NOTHING;
                 } else {
                     giveCycle(latest);
                 }
@@ -942,7 +941,7 @@ public final class CeilingKernel {
                     posts[number].words[y] = job.registers[x];
                     break;
                 case LOCK:
-                    hold(number, job, job.held | 1 << y);
+                    hold(number, job, job.held | (1 << y));
                     break;
                 case UNLOCK:
                     hold(number, job, job.held & ~(1 << routine.openerY(p)));

@@ -12,6 +12,7 @@ public final class AdmitTest {
         wrongJumps();
         leftOpen();
         firstReasonCounts();
+        nothingStaysOpenBehindAReason();
         soundImages();
         laterTasks();
         lateTasks();
@@ -139,6 +140,21 @@ public final class AdmitTest {
         reason(6, 100, "SET 0 0", "JZ 0 1", "END");
         // Brackets of one routine are not open in the next.
         reason(2, 100, "CALL 1", "UNLOCK");
+    }
+
+    private static void nothingStaysOpenBehindAReason() {
+        String[] unsound = {"LOOP 1; LOOP 1", "LOCK 0; LOCK 1", "LOCK 1; LOOP 1; CALL 0", "LOOP 1; LOOP 1; LOCK 1; CALL 1"};
+        for (String first : unsound) {
+            CeilingKernel k = image(first, "LOCK 1; UNLOCK");
+            Checks.due("a reason against " + first, k.admit() != 0, true);
+            k.wipe(0);
+            Asm.put(k, 0, 0, "LOOP 1", "LOOP 1", "LOCK 1", "CALL 1", "UNLOCK", "END", "END");
+            Asm.put(k, 0, 1, "LOCK 0", "UNLOCK");
+            Checks.due("a sound image behind " + first, k.admit(), 0);
+            k.wipe(0);
+            Asm.put(k, 0, 0, "UNLOCK");
+            Checks.due("an UNLOCK of nothing behind " + first, k.admit(), 2);
+        }
     }
 
     private static void soundImages() {

@@ -4,6 +4,7 @@ import java.lang.reflect.Method;
 import java.lang.reflect.Modifier;
 import java.nio.file.Files;
 import java.nio.file.Path;
+import java.util.Arrays;
 import java.util.Set;
 import java.util.TreeSet;
 import java.util.regex.Matcher;
@@ -87,9 +88,14 @@ public final class FaceTest {
             }
             Checks.due("some twenty fields: " + inside, fields <= 20, true);
             for (Method method : inside.getDeclaredMethods()) {
+                Checks.due("with a public name: " + method, isOfTheFace(method.getName()), false);
                 Checks.due("at most seven parameters: " + method, method.getParameterCount() <= 7, true);
             }
         }
+    }
+
+    private static boolean isOfTheFace(String name) {
+        return Arrays.stream(FACE).anyMatch(wanted -> wanted.contains(" " + name + "("));
     }
 
     private static void checkSource(String source) {

@@ -13,6 +13,7 @@ public final class FiguresTest {
         ceilings();
         blockings();
         blockingNeedsLessUrgentTask();
+        blockingAmongFive();
         responses();
         responseOnTheDeadline();
         responsesEndAtFirstLateTask();
@@ -48,6 +49,9 @@ public final class FiguresTest {
         wcet(28, "LOOP 3", "SET 0 0", "LOOP 2", "LOAD 0 0", "END", "END");
         // One loop behind another: the rounds of the first are over.
         wcet(4 + 5, "LOOP 3", "END", "LOOP 2", "SET 0 0", "END");
+        wcet(6, "LOOP 1", "END", "DIV 0 0");
+        // 1 + 3 * ((1 + 1 * (2 + 1)) + 4 + 1) + 1
+        wcet(29, "LOOP 3", "LOOP 1", "LOAD 0 0", "END", "DIV 0 0", "END", "SET 0 0");
         // 1 + 4 * (2 + 4 + 1)
         wcet(29, "LOOP 4", "JZ 0 1", "DIV 0 0", "END");
         wcet(9, "JZ 0 2", "JZ 0 2", "SET 0 0", "DIV 0 0");
@@ -183,6 +187,23 @@ public final class FiguresTest {
         k.admit();
         Checks.due("no resource in common", k.blocking(0), 0);
         Checks.due("the less urgent one", k.blocking(1), 0);
+    }
+
+    private static void blockingAmongFive() {
+        CeilingKernel k = new CeilingKernel();
+        for (int i = 0; i < 5; i++) {
+            k.task(1000, 1000, 0);
+            Asm.put(k, i, 0, i == 2 ? "SET 0 0" : "LOCK 1", i == 2 ? "SET 0 0" : "UNLOCK");
+        }
+        Asm.put(k, 1, 0, "LOCK 3", "DIV 0 0", "UNLOCK");
+        Asm.put(k, 4, 0, "LOCK 3", "LOAD 0 0", "UNLOCK");
+        Checks.due("admit()", k.admit(), 0);
+        int[] want = {1 + 2, 3 + 2, 3 + 2, 3 + 2, 0};
+        for (int i = 0; i < 5; i++) {
+            Checks.due("blocking(" + i + ") of five", k.blocking(i), want[i]);
+        }
+        // 0 + 8 + 2, and 3 + 4, 10 + 4, 2 + 4, 3 + 4 for the others
+        Checks.due("response(4) of five", k.response(4), 10 + 7 + 14 + 6 + 7);
     }
 
     private static CeilingKernel pair(int deadline, String... lines) {

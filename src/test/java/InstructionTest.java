@@ -11,6 +11,7 @@ public final class InstructionTest {
         setAndAdd();
         div();
         traps();
+        jobsBehindATrap();
         words();
         jumps();
         loops();
@@ -105,6 +106,22 @@ public final class InstructionTest {
         called.start();
         Checks.due("a trap in a routine ends the job", called.run(100), 1);
         Checks.due("its time", called.entry(0, 2), 2 + 2 + 1 + 4);
+    }
+
+    private static void jobsBehindATrap() {
+        CeilingKernel k = new CeilingKernel();
+        k.task(50, 50, 0);
+        Asm.put(k, 0, 0, "CALL 1", "OUT 1");
+        Asm.put(k, 0, 1, "LOAD 1 0", "SET 2 6", "STORE 2 0", "CALL 2", "SET 3 1");
+        Asm.put(k, 0, 2, "DIV 2 1", "OUT 2");
+        Checks.due("admit()", k.admit(), 0);
+        k.start();
+        Checks.due("the first job traps in routine 2", k.run(50), 1);
+        Checks.due("kind", k.entry(0, 0), 3);
+        Checks.due("the next one begins anew", k.run(50), 3);
+        outs(k, "the next one", 1, 6);
+        Checks.due("and is done", k.entry(0, 0), 2);
+        Checks.due("its value", k.entry(0, 3), 2 + 2 + 2 + 1 + 2 + 2 + 4 + 1 + 1 + 1);
     }
 
     private static void words() {

@@ -9,6 +9,7 @@ public final class RunTest {
         startNeedsFigures();
         haltEndsTheRun();
         nothingIsLeftToTheNextRun();
+        noCountIsLeftToTheNextRun();
         refusedHaltAndStartChangeNothing();
         runEdges();
         runCountsEntries();
@@ -83,6 +84,24 @@ public final class RunTest {
         k.start();
         Checks.due("all of it", k.run(60), 1);
         Checks.due("its value", k.worst(0), 2 + 2 + 1 + 2 + 1 + 2 + 1 + 8 * 3 + 1);
+    }
+
+    private static void noCountIsLeftToTheNextRun() {
+        CeilingKernel k = new CeilingKernel();
+        k.task(2, 2, 3);
+        Asm.put(k, 0, 0, "SET 0 0");
+        k.admit();
+        for (int round = 0; round < 2; round++) {
+            k.start();
+            Checks.due("worst at first", k.worst(0), 0);
+            k.run(6);
+            int[] want = {6, 0, 1, 2, 1, 1, 3};
+            for (int what = 0; what <= 6; what++) {
+                Checks.due("state(" + what + ") in round " + round, k.state(what), want[what]);
+            }
+            Checks.due("worst", k.worst(0), 3);
+            k.halt();
+        }
     }
 
     private static void refusedHaltAndStartChangeNothing() {

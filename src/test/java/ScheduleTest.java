@@ -137,6 +137,8 @@ public final class ScheduleTest {
         entry(k, 1, DONE, 1, 17, 12);
         entry(k, 0, DONE, 2, 20, 20);
         Checks.due("switches", k.state(2), 4);
+        k.run(79);
+        timeline(k, "the same once more", "22222222200000111222.");
     }
 
     private static void lockThatIsNotDoneKeepsNobodyOut() {
