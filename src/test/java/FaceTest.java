@@ -83,7 +83,8 @@ public final class FaceTest {
             int fields = 0;
             for (Field field : inside.getDeclaredFields()) {
                 boolean isStatic = Modifier.isStatic(field.getModifiers());
-                Checks.due("static and not final: " + field, isStatic && !Modifier.isFinal(field.getModifiers()), false);
+                Checks.due("static and not final: " + field, isStatic && !Modifier.isFinal(field.getModifiers()),
+                        false);
                 fields += isStatic ? 0 : 1;
             }
             Checks.due("some twenty fields: " + inside, fields <= 20, true);
