@@ -166,8 +166,8 @@ public final class FiguresTest {
     private static void blockings() {
         // Ceilings: 0 of resource 2, 1 of resource 0, 2 of resource 1.
         CeilingKernel k = Asm.figured("200 200 0 | SET 0 0 |  | LOCK 2; DIV 0 0; DIV 0 0; DIV 0 0; UNLOCK",
-                "300 300 0 | LOCK 0; UNLOCK", "400 400 0 | LOCK 0; DIV 0 0; UNLOCK; LOCK 2; LOAD 0 0; UNLOCK | LOCK "
-                    + "1; DIV 0 0; DIV 0 0; UNLOCK");
+                "300 300 0 | LOCK 0; UNLOCK",
+                "400 400 0 | LOCK 0; DIV 0 0; UNLOCK; LOCK 2; LOAD 0 0; UNLOCK | LOCK 1; DIV 0 0; DIV 0 0; UNLOCK");
         Checks.due("blocking(0): resource 2 alone", k.blocking(0), 3 + 2);
         Checks.due("blocking(1): resources 0 and 2", k.blocking(1), 5 + 2);
         Checks.due("blocking(2): nobody is less urgent", k.blocking(2), 0);

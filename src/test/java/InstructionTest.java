@@ -55,10 +55,10 @@ public final class InstructionTest {
     private static void add() {
         ranges(Asm.ADD, 3, 0, 3);
         cost(1, "ADD 0 1");
-        int[][] sums = {{GREATEST - 1, 1, GREATEST}, {GREATEST, 1, LEAST}, {LEAST + 1, -1, LEAST}, {LEAST, -1,
-                GREATEST},
-            {GREATEST, GREATEST, -2}, {LEAST, LEAST, 0}, {GREATEST, LEAST, -1}, {LEAST, 0, LEAST}, {0, GREATEST,
-                    GREATEST}};
+        int[][] sums = {
+            {GREATEST - 1, 1, GREATEST}, {GREATEST, 1, LEAST}, {LEAST + 1, -1, LEAST}, {LEAST, -1, GREATEST},
+            {GREATEST, GREATEST, -2}, {LEAST, LEAST, 0}, {GREATEST, LEAST, -1}, {LEAST, 0, LEAST},
+            {0, GREATEST, GREATEST}};
         for (int[] s : sums) {
             outs("SET 0 " + s[0] + "; SET 3 " + s[1] + "; ADD 0 3; OUT 0; OUT 3", s[2], s[1]);
             outs("SET 3 " + s[0] + "; SET 0 " + s[1] + "; ADD 3 0; OUT 3; OUT 0", s[2], s[1]);
@@ -71,9 +71,9 @@ public final class InstructionTest {
     private static void div() {
         ranges(Asm.DIV, 3, 0, 3);
         cost(1 + 4, "SET 1 1; DIV 0 1");
-        int[][] quotients = {{7, 2, 3}, {-7, 2, -3}, {7, -2, -3}, {-7, -2, 3}, {1, 2, 0}, {-1, 2, 0}, {1, -2, 0}, {-1,
-                -2, 0},
-            {0, 9, 0}, {LEAST, -1, LEAST}, {LEAST + 1, -1, GREATEST}, {LEAST, 1, LEAST}, {LEAST, -2, 1073741824},
+        int[][] quotients = {
+            {7, 2, 3}, {-7, 2, -3}, {7, -2, -3}, {-7, -2, 3}, {1, 2, 0}, {-1, 2, 0}, {1, -2, 0}, {-1, -2, 0}, {0, 9, 0},
+            {LEAST, -1, LEAST}, {LEAST + 1, -1, GREATEST}, {LEAST, 1, LEAST}, {LEAST, -2, 1073741824},
             {GREATEST, -1, -GREATEST}, {LEAST, LEAST, 1}, {GREATEST, LEAST, 0}, {LEAST, GREATEST, -1}};
         for (int[] q : quotients) {
             outs("SET 0 " + q[0] + "; SET 3 " + q[1] + "; DIV 0 3; OUT 0; OUT 3", q[2], q[1]);

@@ -16,8 +16,7 @@ public final class RefusedTest {
         "40 40 -1 | LOCK 0; IN 1 0; STORE 1 2; UNLOCK; OUT 1",
         "60 60 3 | CALL 1; SEND 1 0; SEND 1 1 | LOCK 1; LOCK 0; LOAD 1 0; UNLOCK; UNLOCK",
         "50 50 -1 | SET 2 1; LOAD 1 1; ADD 1 2; STORE 1 1; JZ 3 1; OUT 0; OUT 1",
-        "90 90 0 | LOOP 2; LOCK 1; RECEIVE 2 0; SET 3 1; ADD 2 3; STORE 2 7; LOAD 1 7; DIV 1 2; UNLOCK; OUT 1; END; "
-            + "OUT 0"
+        "90 90 0 | LOOP 2; LOCK 1; RECEIVE 2 0; SET 3 1; ADD 2 3; STORE 2 7; LOAD 1 7; DIV 1 2; UNLOCK; OUT 1; END; OUT 0"
             + " | " + Asm.times(12, "SET 0 1") + " | " + Asm.times(12, "SET 0 2"),
         "30 20 1 | RECEIVE 2 1; LOCK 3; DIV 1 0; UNLOCK"};
 
@@ -91,14 +90,12 @@ public final class RefusedTest {
         for (int[] t : tasks) {
             calls.add(new Call("task(" + t[0] + ", " + t[1] + ", " + t[2] + ")", k -> k.task(t[0], t[1], t[2])));
         }
-        int[][] codes = {{-1, 0, 0, 0, 0}, {5, 0, 0, 0, 0}, {0, -1, 0, 0, 0}, {0, 3, 0, 0, 0}, {0, 0, -1, 0, 0}, {0,
-                0, 15, 0, 0},
-            {0, 0, Asm.SET, -1, 0}, {0, 1, Asm.SET, 4, 0}, {0, 2, Asm.LOCK, 1, 0}, {0, 0, Asm.LOCK, 0, 4}, {0, 0,
-                    Asm.LOOP, 0, 0},
-            {0, 0, Asm.LOOP, 0, 9}, {0, 0, Asm.JZ, 0, 0}, {0, 0, Asm.JZ, 0, 12}, {0, 0, Asm.END, 0, 1}, {0, 0,
-                    Asm.OUT, 0, 1},
-            {0, 0, Asm.CALL, 0, 3}, {0, 0, Asm.LOAD, 0, 8}, {0, 0, Asm.STORE, 0, -1}, {0, 0, Asm.IN, 0, 2}, {0, 0,
-                    Asm.SEND, 0, 2}};
+        int[][] codes = {
+            {-1, 0, 0, 0, 0}, {5, 0, 0, 0, 0}, {0, -1, 0, 0, 0}, {0, 3, 0, 0, 0}, {0, 0, -1, 0, 0}, {0, 0, 15, 0, 0},
+            {0, 0, Asm.SET, -1, 0}, {0, 1, Asm.SET, 4, 0}, {0, 2, Asm.LOCK, 1, 0}, {0, 0, Asm.LOCK, 0, 4},
+            {0, 0, Asm.LOOP, 0, 0}, {0, 0, Asm.LOOP, 0, 9}, {0, 0, Asm.JZ, 0, 0}, {0, 0, Asm.JZ, 0, 12},
+            {0, 0, Asm.END, 0, 1}, {0, 0, Asm.OUT, 0, 1}, {0, 0, Asm.CALL, 0, 3}, {0, 0, Asm.LOAD, 0, 8},
+            {0, 0, Asm.STORE, 0, -1}, {0, 0, Asm.IN, 0, 2}, {0, 0, Asm.SEND, 0, 2}};
         for (int[] c : codes) {
             calls.add(new Call("code" + Arrays.toString(c), k -> told(k.code(c[0], c[1], c[2], c[3], c[4]))));
         }

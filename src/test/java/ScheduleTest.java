@@ -170,8 +170,8 @@ public final class ScheduleTest {
 
     @Says("A release gives the task a JOB: registers 0, at place 0 of routine 0 (the words stay).")
     private static void everyJobBeginsAnew() {
-        CeilingKernel k = Asm.started("20 20 0 | LOAD 1 7; SET 2 3; ADD 1 2; STORE 1 7; STORE 3 0; STORE 0 1; SET 3 "
-                + "9; SET 0 9");
+        CeilingKernel k = Asm.started(
+                "20 20 0 | LOAD 1 7; SET 2 3; ADD 1 2; STORE 1 7; STORE 3 0; STORE 0 1; SET 3 9; SET 0 9");
         k.run(60);
         Checks.due("words stay", k.word(0, 7), 9);
         Checks.due("r3 does not", k.word(0, 0), 0);

@@ -105,10 +105,9 @@ public final class TermsTest {
 
     @Says("and WORDS 0 .. 7")
     private static void eightWordsOfEachTask() {
-        CeilingKernel k = Asm.started(
-                "900 900 0 | CALL 1; CALL 2 | SET 1 10; STORE 1 0; SET 1 11; STORE 1 1; SET 1 12; STORE 1 2; SET 1 "
-                    + "13; STORE 1 3"
-                        + " | SET 1 14; STORE 1 4; SET 1 15; STORE 1 5; SET 1 16; STORE 1 6; SET 1 17; STORE 1 7",
+        String first = "SET 1 10; STORE 1 0; SET 1 11; STORE 1 1; SET 1 12; STORE 1 2; SET 1 13; STORE 1 3";
+        String second = "SET 1 14; STORE 1 4; SET 1 15; STORE 1 5; SET 1 16; STORE 1 6; SET 1 17; STORE 1 7";
+        CeilingKernel k = Asm.started("900 900 0 | CALL 1; CALL 2 | " + first + " | " + second,
                 "900 900 0 | SET 1 9; STORE 1 7; LOAD 2 0; OUT 2");
         k.run(200);
         for (int i = 0; i < 8; i++) {
@@ -151,8 +150,8 @@ public final class TermsTest {
     @Says("MAILBOXES 0 and 1 of at most 3 numbers each")
     private static void twoMailboxesOfThree() {
         // Each is sent 1, 2, 3, 4; r2 is the 1 that is added. Then all that there is comes out again.
-        String fill = "SET 1 0; SET 2 1; LOOP 4; ADD 1 2; SEND 1 %d; END; OUT 0; LOOP 4; SET 3 9; RECEIVE 3 %d; OUT "
-                + "3; END";
+        String fill = "SET 1 0; SET 2 1; LOOP 4; ADD 1 2; SEND 1 %d; END; OUT 0; "
+                + "LOOP 4; SET 3 9; RECEIVE 3 %d; OUT 3; END";
         for (int mailbox = 0; mailbox < 2; mailbox++) {
             CeilingKernel k = Asm.ran(100, String.format(fill, mailbox, mailbox));
             Watch.outs(k, "the fourth did not go into mailbox " + mailbox, 0, 1, 2, 3, 9);
