@@ -18,7 +18,7 @@ public final class RefusedTest {
         "50 50 -1 | SET 2 1; LOAD 1 1; ADD 1 2; STORE 1 1; JZ 3 1; OUT 0; OUT 1",
         "90 90 0 | LOOP 2; LOCK 1; RECEIVE 2 0; SET 3 1; ADD 2 3; STORE 2 7; LOAD 1 7; DIV 1 2; UNLOCK; OUT 1; END; OUT 0"
             + " | " + Asm.times(12, "SET 0 1") + " | " + Asm.times(12, "SET 0 2"),
-        "30 20 1 | RECEIVE 2 1; LOCK 3; DIV 1 0; UNLOCK"};
+        "30 20 1 | LOOP 3; RECEIVE 2 1; END; LOCK 3; DIV 1 0; UNLOCK"};
 
     private record State(String name, boolean runs, boolean figures, Supplier<CeilingKernel> make) {
     }
